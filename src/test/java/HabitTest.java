@@ -4,6 +4,7 @@ public final class HabitTest {
         allowed();
         firsts();
         lateHours();
+        logZeroCounts();
         pairs();
         Check.finish("HabitTest");
     }
@@ -91,6 +92,25 @@ public final class HabitTest {
             Check.due("odd(" + log + ", 2)", as[log], x.odd(log, 2));
             Check.due("odd(" + log + ", 3)", all[log], x.odd(log, 3));
         }
+    }
+
+    private static void logZeroCounts() {
+        DoorReader x = Check.with("room a 0;room b 0;door d a b 0;");
+        x.card();
+        x.card();
+        x.pass(0, 0, false, 7);
+        x.pass(0, 0, false, 32);
+        x.pass(1, 0, false, 7);
+        Check.due("odd(1, 2)", 1, x.odd(1, 2));
+        Check.due("odd(1, 3)", 1, x.odd(1, 3));
+        Check.due("odd(1, 0)", 0, x.odd(1, 0));
+        Check.due("pairs(0, 1, 0, 1)", 1, x.pairs(0, 1, 0, 1));
+        Check.due("pairs(0, 1, 0, 0)", 1, x.pairs(0, 1, 0, 0));
+        x.pass(1, 0, false, 32);
+        x.pass(1, 0, false, 32);
+        x.pass(1, 0, false, 60);
+        Check.due("earlier hours are not as late", 0, x.odd(5, 2));
+        Check.due("like earliest ones of a day count once, 3", 2, x.odd(5, 3));
     }
 
     private static void pairs() {

@@ -3,6 +3,7 @@ public final class TextTest {
     public static void main(String[] args) {
         newObject();
         tape();
+        cutTape();
         goodTexts();
         tokenFaults();
         otherFaults();
@@ -55,6 +56,25 @@ public final class TextTest {
         Check.due("bytes put together", 18, x.count(5));
         Check.due("a text put together", 2, x.building());
         Check.due("bytes behind building", 0, x.count(5));
+    }
+
+    /** Bytes that were cut off, or fed for an earlier building, belong to no word or number. */
+    private static void cutTape() {
+        String text = "room a 0;room bcd 12;";
+        int[][] cuts = {{15, 1, 15}, {16, 1, 16}, {19, 1, 19}, {20, 5, 18}, {13, 1, 13}, {12, 1, 9}, {9, 6, 9}};
+        for (int[] cut : cuts) {
+            DoorReader x = new DoorReader();
+            Check.feed(x, text);
+            x.end(cut[0]);
+            Check.due("cut to " + cut[0], -1 - cut[1], x.building());
+            Check.due("place of the cut to " + cut[0], cut[2], x.place());
+        }
+        DoorReader x = new DoorReader();
+        Check.feed(x, text);
+        x.building();
+        Check.feed(x, "room a 0;room b 1");
+        Check.due("a shorter text behind", -2, x.building());
+        Check.due("its place", 17, x.place());
     }
 
     private static void goodTexts() {

@@ -9,6 +9,10 @@ public final class WaysTest {
         edgesOfTime();
         passOrFree();
         firstWays();
+        byPassOrFreeOnTheFirstWay();
+        askedAgain();
+        otherBuilding();
+        largest();
         breaks();
         counts();
         wrongInputs();
@@ -191,6 +195,113 @@ public final class WaysTest {
             Check.due("way(0, " + t + ", " + room + ", " + (from + i) + ")", want.charAt(i) - '0',
                     Check.way(x, 0, t, room, from + i));
         }
+    }
+
+    private static void byPassOrFreeOnTheFirstWay() {
+        DoorReader x = Check.with("room a 0;room b 0;door d a b 0;door e a b 2;");
+        x.card();
+        x.gap(0, 10, 11);
+        x.pass(0, 1, false, 11);
+        x.sight(0, 1, 10);
+        x.sight(0, 0, 11);
+        x.sight(0, 1, 12);
+        walk(x, 100, 1, 9, "01011");
+        DoorReader y = Check.with("room a 0;room b 0;door d a b 0;door e a b 2;");
+        y.card();
+        y.gap(0, 10, 11);
+        y.pass(0, 1, false, 12);
+        y.sight(0, 1, 10);
+        y.sight(0, 1, 14);
+        walk(y, 100, 1, 9, "0100011");
+        walk(y, 11, 1, 9, "0111111");
+        DoorReader z = Check.with("room a 4;room b 4;door d a b 0;");
+        z.card();
+        z.pass(0, 0, false, 0);
+        z.gap(0, 1, 5);
+        walk(z, 0, 1, 0, "1111100000");
+        walk(z, 199, 1, 0, "1111111111");
+    }
+
+    /** What was asked ahead must not be answered again when a card, tick, room or the logs are others. */
+    private static void askedAgain() {
+        DoorReader x = Check.with("room a 0;room b 0;door d a b 0;");
+        x.card();
+        x.card();
+        x.gap(0, 5, 9);
+        x.pass(1, 0, false, 20);
+        Check.due("card 0", 0, Check.way(x, 0, 30, 0, 21));
+        Check.due("card 1", -1, Check.way(x, 1, 30, 0, 21));
+        Check.due("card 1 in b", 1, Check.way(x, 1, 30, 1, 21));
+        Check.due("card 1 in b ahead", 0, Check.way(x, 1, 30, 1, 10));
+        Check.due("card 0 in b ahead", 1, Check.way(x, 0, 30, 1, 10));
+        Check.due("card 0 in a", 0, Check.way(x, 0, 30, 0, 9));
+        Check.due("card 0 in b then", 1, Check.way(x, 0, 30, 1, 9));
+        Check.due("card 0 in b in 6", 0, Check.way(x, 0, 6, 1, 5));
+        Check.due("card 0 in b in 6, then", 0, Check.way(x, 0, 6, 1, 7));
+        Check.due("card 0 in b in 0", -1, Check.way(x, 0, 0, 1, 7));
+        Check.due("card 0 in a in 0", 0, Check.way(x, 0, 0, 0, 7));
+        Check.due("card 0 outside at the end", 0, Check.way(x, 0, 199, 0, 7));
+        x.sight(0, 1, 7);
+        Check.due("with the sight", 1, Check.way(x, 0, 199, 0, 7));
+        Check.due("rooms with the sight", 2, x.rooms(0, 7, 3));
+        Check.due("rooms without", 3, x.rooms(0, 7, 2));
+        Check.due("rooms with it again", 2, x.rooms(0, 7, 3));
+        Check.due("rooms without gaps", 1, x.rooms(0, 7, 0));
+    }
+
+    private static void otherBuilding() {
+        DoorReader x = Check.with("room a 0;room b 0;door d a b 0;");
+        x.card();
+        Check.due("the very first way", 0, Check.way(x, 0, 0, 0, 0));
+        x.gap(0, 5, 5);
+        Check.due("first building", 3, x.rooms(0, 5, 1));
+        Check.due("first building's way", 1, Check.way(x, 0, 50, 1, 5));
+        Check.build(x, "room a 0;room b 0;door d a b 0;");
+        x.card();
+        x.gap(0, 9, 9);
+        Check.due("second building's way", 0, Check.way(x, 0, 50, 1, 5));
+        Check.due("second building", 1, x.rooms(0, 5, 1));
+        Check.due("second building in 9", 3, x.rooms(0, 9, 1));
+        Check.due("second building's way in 9", 1, Check.way(x, 0, 50, 1, 9));
+        Check.build(x, "room a 0;room b 0;door d a b 0;");
+        x.card();
+        Check.due("third building's way", -1, Check.way(x, 0, 50, 1, 9));
+        Check.due("third building's way outside", 0, Check.way(x, 0, 50, 0, 9));
+    }
+
+    private static void largest() {
+        StringBuilder text = new StringBuilder();
+        for (char c = 'a'; c <= 'h'; c++) {
+            text.append("room ").append(c).append(" 4;");
+        }
+        for (char c = 'a'; c <= 'h'; c++) {
+            text.append("door d").append(c).append(' ').append(c).append(' ').append(c == 'h' ? 'a' : (char) (c + 1))
+                    .append(" 6;");
+        }
+        text.append("door y a h 0;door z a h 0;");
+        DoorReader x = Check.with(text.toString());
+        for (int card = 0; card < 10; card++) {
+            x.card();
+        }
+        for (int d = 0; d < 8; d++) {
+            x.gap(d, 0, 199);
+        }
+        Check.due("one step", 1 | 2 | 128, x.rooms(9, 4, 8));
+        Check.due("two steps", 1 | 2 | 4 | 64 | 128, x.rooms(9, 5, 8));
+        Check.due("everywhere", 255, x.rooms(9, 199, 8));
+        x.sight(9, 7, 0);
+        Check.due("only come to", 128, x.rooms(9, 4, 9));
+        Check.due("gone on", 1 | 64 | 128, x.rooms(9, 5, 9));
+        Check.due("many", 9, x.many(0, 4, 9, 1));
+        Check.due("inside for certain", 1, x.inside(4, 9, 0));
+        Check.due("inside perhaps", 1023, x.inside(4, 9, 2));
+        for (int i = 0; i < 12; i++) {
+            x.pass(0, i % 8, false, 16 * i);
+        }
+        Check.due("twelve passes", -1, x.broken(0, 21));
+        Check.due("at the end", 255, x.rooms(0, 199, 21));
+        Check.due("without gaps a chain", -1, x.broken(0, 20));
+        Check.due("the first way ends outside", 0, Check.way(x, 0, 199, 0, 199));
     }
 
     private static void breaks() {
