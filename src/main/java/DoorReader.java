@@ -362,12 +362,11 @@ public final class DoorReader {
             doors = 0;
         }
 
+        /* Without the names: they matter only while a text is read. */
         private void copyFrom(Plan other) {
             rooms = other.rooms;
             doors = other.doors;
-            System.arraycopy(other.roomName, 0, roomName, 0, MOST_ROOMS);
             System.arraycopy(other.width, 0, width, 0, MOST_ROOMS);
-            System.arraycopy(other.doorName, 0, doorName, 0, MOST_DOORS);
             System.arraycopy(other.first, 0, first, 0, MOST_DOORS);
             System.arraycopy(other.second, 0, second, 0, MOST_DOORS);
             System.arraycopy(other.error, 0, error, 0, MOST_DOORS);
@@ -418,7 +417,7 @@ public final class DoorReader {
         }
     }
 
-    /** Reads a text token by token and stops at the first fault, which so is the leftmost one. */
+    /** Reads a text token by token, so that the first fault that is met is the leftmost one. */
     private static final class TextReader {
         private final byte[] text;
         private int length;
@@ -443,22 +442,18 @@ public final class DoorReader {
             faultPlace = NONE;
             nextToken();
             for (int i = 0; i <= MOST_BYTES && fault == NO_FAULT && token != TOKEN_END; i++) {
-                readItem(plan);
+                if (token == TOKEN_WORD && value == WORD_ROOM) {
+                    readRoom(plan);
+                } else if (token == TOKEN_WORD && value == WORD_DOOR) {
+                    readDoor(plan);
+                } else {
+                    faultHere(FAULT_TOKEN);
+                }
             }
             if (fault == NO_FAULT && plan.rooms < LEAST_ROOMS) {
                 faultHere(FAULT_FEW_ROOMS);
             }
             return fault;
-        }
-
-        private void readItem(Plan plan) {
-            if (token == TOKEN_WORD && value == WORD_ROOM) {
-                readRoom(plan);
-            } else if (token == TOKEN_WORD && value == WORD_DOOR) {
-                readDoor(plan);
-            } else {
-                faultHere(FAULT_TOKEN);
-            }
         }
 
         private void readRoom(Plan plan) {
@@ -1005,8 +1000,8 @@ public final class DoorReader {
 
         private static int roomsIn(long places) {
             int rooms = 0;
-            for (long rest = places; rest != 0; rest >>>= WAIT_BITS) {
-                rooms |= (int) (rest & FREE_TO_LEAVE);
+            for (int wait = 0; wait <= MOST_WIDTH; wait++) {
+                rooms |= (int) (places >>> (WAIT_BITS * wait) & FREE_TO_LEAVE);
             }
             return rooms;
         }
