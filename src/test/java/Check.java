@@ -1,13 +1,31 @@
 import java.util.NoSuchElementException;
 
-/** What the tests share: counting wrong answers, and feeding a text to a reader. */
+/** What the tests share: counting wrong answers, a watch on calls that don't end, and feeding a text to a reader. */
 final class Check {
+    private static final long LONGEST_MILLIS = 600_000;
+
     static final String SMALL = "room out 0;room hall 1;room lab 0;door main out hall 2;door side hall lab 0;";
 
     private static int asked = 0;
     private static int wrong = 0;
 
+    static {
+        Thread watch = new Thread(Check::watch);
+        watch.setDaemon(true);
+        watch.start();
+    }
+
     private Check() {
+    }
+
+    private static void watch() {
+        try {
+            Thread.sleep(LONGEST_MILLIS);
+        } catch (InterruptedException e) {
+            return;
+        }
+        System.out.println("a call does not end");
+        Runtime.getRuntime().halt(1);
     }
 
     static void due(String call, long want, long got) {
@@ -29,8 +47,8 @@ final class Check {
         System.exit(wrong == 0 && asked > 0 ? 0 : 1);
     }
 
-    /** Feeds the text, padded with blanks to rows of twenty, and cuts the tape to the text. */
-    static void feed(DoorReader x, String text) {
+    /** Feeds the text, padded with blanks to rows of twenty, and cuts the tape to the text; answers its calls. */
+    static int feed(DoorReader x, String text) {
         int before = x.count(5);
         for (int from = 0; from < text.length(); from += 20) {
             int[] n = new int[5];
@@ -41,6 +59,7 @@ final class Check {
             x.feed(n[0], n[1], n[2], n[3], n[4]);
         }
         x.end(before + text.length());
+        return (text.length() + 19) / 20 + 2;
     }
 
     static int build(DoorReader x, String text) {

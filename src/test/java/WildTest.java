@@ -3,13 +3,16 @@ import java.util.NoSuchElementException;
 import java.util.Random;
 
 /**
- * Any arguments in any state: no call throws but way, and way only what the document names; and no call makes
- * objects, since all calls of a run live in one room.
+ * Any arguments in any state: no call throws but way, and way only what the document names; and a run makes little,
+ * since all its calls live in one room.
  */
 public final class WildTest {
     private static final int[] WILD = {Integer.MIN_VALUE, Integer.MIN_VALUE + 1, -200, -26, -2, -1, 0, 0, 0, 1, 1, 1, 2,
         2, 3, 4, 5, 6, 7, 8, 9, 10, 11, 12, 24, 25, 26, 99, 100, 101, 198, 199, 200, 201, 599, 600, 601,
         Integer.MAX_VALUE - 1, Integer.MAX_VALUE};
+
+    /* The room has 7.3 million fields and elements, each of a byte at least. */
+    private static final long ROOM = 7_300_000;
 
     private static Random random;
 
@@ -33,7 +36,7 @@ public final class WildTest {
                 x.card();
             }
         }
-        for (int i = 0; i < 490; i++) {
+        for (int i = 0; i < 480; i++) {
             int what = random.nextInt(21);
             try {
                 call(x, what);
@@ -89,9 +92,17 @@ public final class WildTest {
         com.sun.management.ThreadMXBean bean =
                 (com.sun.management.ThreadMXBean) ManagementFactory.getThreadMXBean();
         long thread = Thread.currentThread().getId();
-        DoorReader x = Check.with(big());
-        long start = bean.getThreadAllocatedBytes(thread);
-        long sum = 0;
+        for (int round = 0; round < 7; round++) {
+            long start = bean.getThreadAllocatedBytes(thread);
+            DoorReader x = new DoorReader();
+            Check.build(x, big());
+            long sum = manyCalls(x, 60 * round);
+            long made = bean.getThreadAllocatedBytes(thread) - start;
+            Check.holds("a run lives in its room, here of " + made + " bytes (" + sum + ")", made < ROOM);
+        }
+    }
+
+    private static long manyCalls(DoorReader x, int from) {
         for (int card = 0; card < 10; card++) {
             x.card();
             for (int i = 0; i < 5; i++) {
@@ -99,18 +110,14 @@ public final class WildTest {
             }
             x.gap(card, 10 * card, 150);
         }
-        for (int i = 0; i < 400; i++) {
-            int n = i % (x.count(3) + 1);
+        long sum = 0;
+        for (int i = from; i < from + 60; i++) {
+            int n = i % 61;
             sum += x.inside(i % 200, n, 1) + x.many(i % 8, i % 200, n, 0) + x.way(i % 10, i % 200, 0, 5)
                     + x.broken(i % 10, n) + x.odd(i % 50, 2) + x.pairs(0, 1 + i % 9, 24, 0);
         }
         Check.feed(x, "room a 0;room b");
         x.building();
-        long made = bean.getThreadAllocatedBytes(thread) - start;
-        Check.holds("calls make nothing to speak of, here " + made + " bytes (" + sum + ")", made < 100_000);
-        long before = bean.getThreadAllocatedBytes(thread);
-        new DoorReader();
-        long one = bean.getThreadAllocatedBytes(thread) - before;
-        Check.holds("an object takes " + one + " bytes", one < 100_000);
+        return sum;
     }
 }
